@@ -159,7 +159,8 @@ public final class ModelTest {
         int j = near(-1, 8);
         int n = near(-1, 8);
         int t = near(0, Math.max(0, x.many(3)));
-        String told = "(k " + k + ", other " + other + ", lane " + lane + ", i " + i + ", j " + j + ", n " + n + ", t " + t + ")";
+        String told = "(k " + k + ", other " + other + ", lane " + lane
+            + ", i " + i + ", j " + j + ", n " + n + ", t " + t + ")";
         switch (random.nextInt(11)) {
             case 0: due("sheet" + told, x.sheet(k, lane, n), model.sheet(k, lane, n)); break;
             case 1: due("lose" + told, x.lose(k), model.lose(k)); break;

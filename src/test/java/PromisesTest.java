@@ -228,6 +228,8 @@ public final class PromisesTest {
         due("no benches", x.bench(0), UNKNOWN);
         due("no things", x.ofThing(0, 0), UNKNOWN);
         due("few cells", x.cellHas(2), UNKNOWN);
+        due("as many benches and things as may be", Check.lay(x, FULL_SQUARE), 42);
+        due("counted anew", Check.lay(x, FULL_SQUARE), 42);
     }
 
     private static void cellHas() {
@@ -408,6 +410,12 @@ public final class PromisesTest {
         x = Check.laid("q53;..b;.l9.;..l9;...;...");
         x.statue(12, 9);
         due("2 columns back, 4 rows down, by 7", x.hidden(0), 0);
+        x = Check.laid("q23;bl9l9;...");
+        x.statue(5, 0);
+        due("1 row, 2 columns: no midst", x.hidden(0), 0);
+        x = Check.laid("q43;...;...;...;bl9.");
+        x.statue(11, 0);
+        due("in the last row", x.hidden(0), 1);
         x = Check.laid("q53;..b;...;.l9.;...;...");
         x.statue(12, 9);
         due("line of 6 at 1 of 2", x.hidden(0), 1);
@@ -461,6 +469,9 @@ public final class PromisesTest {
         due("the tree", x.hidden(0), 2);
         x.statue(4, 0);
         due("one is cut, one behind", x.hidden(0), 0);
+        x = Check.laid(ALLEY);
+        x.statue(6, 2);
+        due("from a block of 2, the urn", x.hidden(0), 1);
     }
 
     private static void sight() {
@@ -539,6 +550,9 @@ public final class PromisesTest {
         x.statue(1, 7);
         due("the statue's cell", x.block(1, 0), 0);
         due("the block stays", x.statue(1, 7), 1);
+        x = Check.laid("q16;b.l5...");
+        // At 2 of 5 the foot's line is 4.8 high from a block of 8, 5.2 from one of 9.
+        due("the highest", x.block(5, 0), 9);
     }
 
     private static void cuts() {
@@ -560,6 +574,9 @@ public final class PromisesTest {
         due("none", x.cuts(0), 0);
         due("none", x.cuts(1), 0);
         due("nothing was cut by it", x.ofThing(2, 4), 0);
+        x = Check.laid("q13;.l9.");
+        x.statue(2, 0);
+        due("no benches", x.cuts(0), 0);
     }
 
     private static void complaints() {
@@ -579,6 +596,12 @@ public final class PromisesTest {
         x = Check.laid("q12;..");
         x.statue(0, 0);
         due("no benches", x.complaints(), 0);
+        x = Check.laid("q14;b.t1.");
+        x.statue(3, 0);
+        x.year(6, true);
+        due("a tree of 1", x.complaints(), 0);
+        x.year(9, true);
+        due("a tree of 2", x.complaints(), 1);
     }
 
     private static void moved() {
@@ -628,6 +651,10 @@ public final class PromisesTest {
         x = Check.laid("q12;..");
         x.statue(0, 0);
         due("no benches", x.years(), NONE);
+        x = Check.laid("q14;b.t1.");
+        x.statue(3, 0);
+        x.year(0, true);
+        due("a tree of 2", x.years(), 9);
     }
 
     private static void second() {
@@ -688,6 +715,13 @@ public final class PromisesTest {
         due("4 rows", x.lit(1), 0);
         x.statue(3 * 7 + 4, 0);
         due("4 columns", x.lit(1), 0);
+        x = Check.laid("q52;..;..;..;..;l7.");
+        x.statue(9, 0);
+        due("in the last row", x.lit(1), 15);
+        Check.lay(x, "q13;l9l9.");
+        Check.lay(x, "q13;l1..");
+        x.statue(2, 0);
+        due("by the new lamp alone", x.lit(1), 1);
     }
 
     private static void sheet() {
@@ -712,7 +746,9 @@ public final class PromisesTest {
         due("is 0", x.cell(0, 99, 2), 0);
         x.put(0, 1, 7);
         due("shorter", x.sheet(0, 0, 1), 1);
+        x.put(0, 0, 7);
         due("longer again", x.sheet(0, 0, 2), 1);
+        due("is 0", x.cell(0, 0, 0), 0);
         due("is 0", x.cell(0, 1, 0), 0);
         due("empty", x.sheet(0, 0, 0), 1);
         due("has a row of none", x.put(0, 0, 0), INDEX);
