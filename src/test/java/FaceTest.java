@@ -58,6 +58,12 @@ public final class FaceTest {
                 check.isTrue(m.getName() + " bears no public name", !names.contains(m.getName()));
             }
         }
+        for (Class<?> inside : StatueSquare.class.getDeclaredClasses()) {
+            for (Method m : inside.getDeclaredMethods()) {
+                check.isTrue(m + " bears no public name", !names.contains(m.getName()));
+                check.isTrue(m + " takes at most seven", m.getParameterCount() <= 7);
+            }
+        }
         check.isTrue("methods " + found, found.equals(new TreeSet<>(Set.of(FACE))));
         Constructor<?>[] made = StatueSquare.class.getDeclaredConstructors();
         check.isTrue("one public constructor without parameters", made.length == 1
